@@ -296,14 +296,15 @@ public final class IrrigationTurns {
         final Ledger ledger = new Ledger();
         int hour;
 
-        void clear() {
+        /** Leaves alone what only hours change: the state that texts are read into never sees an hour. */
+        void forgetSetup() {
             canals.count = 0;
             fields.count = 0;
-            rotation.clear();
-            guard.clear();
-            formula.becomeConstant(DEFAULT_INFLOW);
-            ledger.clear();
-            hour = 0;
+            rotation.count = 0;
+            rotation.cycle = 0;
+            guard.length = 0;
+            formula.clear();
+            formula.add(DEFAULT_INFLOW);
         }
 
         void copyFrom(State other) {
@@ -404,14 +405,6 @@ public final class IrrigationTurns {
             copyRow(other.arrived, arrived);
             copyRow(other.moving, moving);
             count = other.count;
-        }
-
-        /** The rows may hold what an earlier text left there. */
-        void empty(int canal) {
-            arrived[canal] = 0;
-            for (int hour = 0; hour < SLOTS; hour++) {
-                moving[slot(canal, hour)] = 0;
-            }
         }
 
         private static int slot(int canal, int hour) {
@@ -519,14 +512,6 @@ public final class IrrigationTurns {
             }
         }
 
-        /** The rows may hold what an earlier text left there. */
-        void empty(int field) {
-            water[field] = 0;
-            taken[field] = 0;
-            stolen[field] = 0;
-            forced[field] = false;
-        }
-
         boolean hasOpenGate(int field, int turn) {
             return village[field] == turn || forced[field];
         }
@@ -632,11 +617,6 @@ public final class IrrigationTurns {
         int count;
         int cycle;
 
-        void clear() {
-            count = 0;
-            cycle = 0;
-        }
-
         void copyFrom(Rotation other) {
             copyRow(other.village, village);
             copyRow(other.hours, hours);
@@ -674,11 +654,6 @@ public final class IrrigationTurns {
         int length;
         private int position;
 
-        void clear() {
-            length = 0;
-            position = 0;
-        }
-
         void copyFrom(Guard other) {
             copyRow(other.route, route);
             length = other.length;
@@ -709,16 +684,6 @@ public final class IrrigationTurns {
         long spilled;
         long lost;
         long seeped;
-
-        void clear() {
-            for (int village = 0; village < VILLAGES; village++) {
-                fines[village] = 0;
-            }
-            entered = 0;
-            spilled = 0;
-            lost = 0;
-            seeped = 0;
-        }
 
         void copyFrom(Ledger other) {
             copyRow(other.fines, fines);
@@ -757,11 +722,6 @@ public final class IrrigationTurns {
         Formula() {
             codes[0] = DEFAULT_INFLOW;
             length = 1;
-        }
-
-        void becomeConstant(int value) {
-            length = 0;
-            add(value);
         }
 
         void clear() {
@@ -936,7 +896,7 @@ public final class IrrigationTurns {
 
         /** Answers the number of statements, or the code of the first error. */
         int readSetup(int length) {
-            draft.clear();
+            draft.forgetSetup();
             error = 0;
             errorStart = NONE;
             hasInflow = false;
@@ -981,7 +941,6 @@ public final class IrrigationTurns {
             canals.loss[canal] = readNumber(0, 50);
             canals.capacity[canal] = readNumber(1, MAX_AMOUNT);
             canals.share[canal] = readOptional("share", 99, 1);
-            canals.empty(canal);
             canals.count++;
         }
 
@@ -1006,7 +965,6 @@ public final class IrrigationTurns {
             fields.bank[field] = readNumber(1, MAX_AMOUNT);
             fields.seepage[field] = readNumber(0, 99);
             fields.under[field] = readOptional("over", field - 1, NONE);
-            fields.empty(field);
             fields.count++;
         }
 

@@ -7,6 +7,7 @@ public final class BufferTest {
         newObject();
         bytesInTheirOrder();
         fullBuffer();
+        tokensUpToTheLastByte();
         twoObjectsAreApart();
         Check.finish();
     }
@@ -72,6 +73,21 @@ public final class BufferTest {
         Check.due("append after the load", x.append(spaces, spaces, spaces, spaces, spaces), 20);
         Check.due("load(20)", x.load(20), 0);
         Check.due("errorOffset()", x.errorOffset(), -1);
+    }
+
+    private static void tokensUpToTheLastByte() {
+        IrrigationTurns x = new IrrigationTurns();
+        Check.due("load of 900 spaces", Check.load(x, " ".repeat(900)), 0);
+        Check.due("load of 900 digits", Check.load(x, "1".repeat(900)), IrrigationTurns.SYNTAX_ERROR);
+        Check.due("errorOffset()", x.errorOffset(), 0);
+        Check.due("load of 900 letters", Check.load(x, "a".repeat(900)), IrrigationTurns.SYNTAX_ERROR);
+        Check.due("load of 100 turns in 900 bytes", Check.load(x, "turn 1 1;".repeat(100)), IrrigationTurns.TOO_MANY);
+        Check.due("load that ends in a number", Check.load(x, " ".repeat(893) + "turn 11"), IrrigationTurns.OUT_OF_RANGE);
+        Check.due("errorOffset()", x.errorOffset(), 898);
+        Check.due("load that ends in a word", Check.load(x, " ".repeat(894) + "inflow"), IrrigationTurns.SYNTAX_ERROR);
+        Check.due("errorOffset()", x.errorOffset(), 900);
+        Check.due("load of 891 spaces and a turn", Check.load(x, " ".repeat(891) + "turn 2 1;"), 1);
+        Check.due("turnAt(0)", x.turnAt(0), 2);
     }
 
     private static void twoObjectsAreApart() {

@@ -203,13 +203,15 @@ public final class ChangesTest {
             sum = 31 * sum + want[i];
         }
         Check.due("checksum()", x.checksum(), sum);
+        x.force(1);
         x.run(2);
         Check.due("fines(3)", x.fines(3), 1);
+        Check.due("stolen(1): hour 3, then the guard closes it", x.stolen(1), 5);
         long[] later = {5,
             x.waterIn(0, 0), x.waterIn(0, 1), x.waterIn(1, 0),
             x.water(0), x.taken(0), x.stolen(0), 0,
-            x.water(1), x.taken(1), x.stolen(1), 0,
-            0, 0, 0, 1, 0, 0, 1};
+            x.water(1), x.taken(1), 5, 0,
+            0, 0, 0, 1, 1, 0, 1};
         long laterSum = 0;
         for (long part : later) {
             laterSum = 31 * laterSum + part;

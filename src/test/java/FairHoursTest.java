@@ -36,6 +36,7 @@ public final class FairHoursTest {
         dueHours(withDemands(10, 20, 30, 0, 40), 10, 1, 2, 3, 0, 4);
         dueHours(withDemands(10, 20, 30, 0, 40), 0, 0, 0, 0, 0, 0);
         dueHours(withDemands(0, 0, 5), 1000, 0, 0, 1000);
+        dueHours(withDemands(0, 1), 7, 0, 7);
         IrrigationTurns x = Check.loaded("canal 1 0 9;field 0 4 1 10 1 0;field 0 1 1 30 1 0;field 0 4 1 20 1 0;");
         dueHours(x, 4, 0, 2, 0, 0, 2);
     }

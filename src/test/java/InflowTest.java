@@ -67,6 +67,10 @@ public final class InflowTest {
         value("(0-9999*9999*9999)*(9999*9999*9999)/9999/9999+50", 0, 40);
         value("(9999*9999*9999)*(9999*9999*9999)/9999/9999", 0, 10);
         value("9999*9999*9999-9999*9998*9999-1", 0, 0);
+        value("9999*9999*9999-1000*1000*1000+5", 0, 5);
+        value("9999*9999*9999-(1000*1000*999+999*1000+999)+5", 0, 6);
+        value("0-9999*9999*9999-9999+1000*1000*1000+5", 0, 5);
+        value("0-9999*9999*9999+(1000*1000*999+999*1000+999)+5", 0, 4);
     }
 
     private static void variables() {
@@ -91,8 +95,10 @@ public final class InflowTest {
         Check.due("inflow(0) follows the swapped rotation", y.inflow(0), 4);
     }
 
-    /** As long as the buffer allows: 446 terms of one byte each. */
+    /** As long as the buffer allows. */
     private static void longExpressions() {
+        IrrigationTurns x = Check.loaded("inflow 1" + "+1".repeat(445) + "; ");
+        Check.due("inflow(0) of 446 terms", x.inflow(0), 446);
         value("1" + "+1".repeat(431), 0, 432);
         value("1" + "*1".repeat(431), 0, 1);
         value("1+1*(1+1*(1+1*(1+1*(1+1*1))))" + "-1+1".repeat(200), 0, 6);

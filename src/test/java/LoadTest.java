@@ -146,6 +146,7 @@ public final class LoadTest {
         bad("Canal 1 0 9;", SYNTAX, 0);
         bad("canals 1 0 9;", SYNTAX, 0);
         bad("cana 1 0 9;", SYNTAX, 0);
+        bad("banal 1 0 9;", SYNTAX, 0);
         bad("can al 1 0 9;", SYNTAX, 0);
         bad("canal -1 0 9;", SYNTAX, 6);
         bad("canal 1 0 9 ", SYNTAX, 12);
