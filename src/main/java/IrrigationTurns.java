@@ -26,7 +26,7 @@ public final class IrrigationTurns {
     private static final int APPENDED_BYTES = 20;
     private static final int UNDO_STEPS = 8;
     private static final int DEFAULT_INFLOW = 100;
-    /** In place of a canal, field, village or route that is not there. */
+    /** In place of a canal, field, village or offset that is not there. */
     private static final int NONE = -1;
 
     private final SetupReader reader = new SetupReader();
@@ -39,7 +39,7 @@ public final class IrrigationTurns {
     }
 
     public int append(int w0, int w1, int w2, int w3, int w4) {
-        Scanner buffer = reader.scanner;
+        Tokens buffer = reader.tokens;
         if (buffer.filled + APPENDED_BYTES > BUFFER_BYTES) {
             return -1;
         }
@@ -52,9 +52,9 @@ public final class IrrigationTurns {
     }
 
     public int load(int length) throws IllegalArgumentException {
-        requireRange(length, 0, reader.scanner.filled);
+        requireRange(length, 0, reader.tokens.filled);
         int result = reader.readSetup(length);
-        reader.scanner.filled = 0;
+        reader.tokens.filled = 0;
         errorAt = reader.errorStart;
         if (result >= 0) {
             history.save(present);
@@ -329,7 +329,9 @@ public final class IrrigationTurns {
                 int came = canals.letArrive(canal, hour);
                 int rest = fields.takeFrom(canal, came, turn);
                 sum += came - rest;
-                divide(canal, rest);
+                if (rest > 0) {
+                    divide(canal, rest);
+                }
             }
             for (int field = fields.count - 1; field >= 0; field--) {
                 ledger.seeped += fields.seepAway(field);
@@ -813,7 +815,7 @@ public final class IrrigationTurns {
     }
 
     /** The input buffer, and the tokens of a text in it. */
-    private static final class Scanner {
+    private static final class Tokens {
         /** Kinds of tokens; any other byte is a token whose kind is the byte itself. */
         static final int END = -1;
         static final int NUMBER = -2;
@@ -888,7 +890,7 @@ public final class IrrigationTurns {
      * their order, and only the first error is kept; so what runs on after it does no harm.
      */
     private static final class SetupReader {
-        final Scanner scanner = new Scanner();
+        final Tokens tokens = new Tokens();
         final State draft = new State();
         int errorStart;
         private int error;
@@ -900,9 +902,9 @@ public final class IrrigationTurns {
             error = 0;
             errorStart = NONE;
             hasInflow = false;
-            scanner.begin(length);
+            tokens.begin(length);
             int statements = 0;
-            while (statements <= BUFFER_BYTES && error == 0 && scanner.kind != Scanner.END) {
+            while (statements <= BUFFER_BYTES && error == 0 && tokens.kind != Tokens.END) {
                 readStatement();
                 skipSign(';');
                 statements++;
@@ -911,18 +913,18 @@ public final class IrrigationTurns {
         }
 
         private void readStatement() {
-            if (scanner.isWord("canal")) {
+            if (tokens.isWord("canal")) {
                 readCanal(draft.canals);
-            } else if (scanner.isWord("field")) {
+            } else if (tokens.isWord("field")) {
                 readField(draft.fields);
-            } else if (scanner.isWord("turn")) {
+            } else if (tokens.isWord("turn")) {
                 readTurn(draft.rotation);
-            } else if (scanner.isWord("guard") && draft.guard.length == 0) {
+            } else if (tokens.isWord("guard") && draft.guard.length == 0) {
                 readGuard(draft.guard);
-            } else if (scanner.isWord("inflow") && !hasInflow) {
+            } else if (tokens.isWord("inflow") && !hasInflow) {
                 hasInflow = true;
                 draft.formula.clear();
-                scanner.next();
+                tokens.next();
                 readSum(0);
             } else {
                 fail(SYNTAX_ERROR);
@@ -935,7 +937,7 @@ public final class IrrigationTurns {
                 fail(TOO_MANY);
                 return;
             }
-            scanner.next();
+            tokens.next();
             canals.parent[canal] = canal == 0 ? NONE : readParent(canal);
             canals.delay[canal] = readNumber(1, MAX_DELAY);
             canals.loss[canal] = readNumber(0, 50);
@@ -945,7 +947,7 @@ public final class IrrigationTurns {
         }
 
         private int readParent(int canal) {
-            if (!scanner.isWord("from")) {
+            if (!tokens.isWord("from")) {
                 fail(SYNTAX_ERROR);
             }
             return readOptional("from", canal - 1, NONE);
@@ -957,7 +959,7 @@ public final class IrrigationTurns {
                 fail(TOO_MANY);
                 return;
             }
-            scanner.next();
+            tokens.next();
             fields.canal[field] = readNumber(0, draft.canals.count - 1);
             fields.village[field] = readNumber(0, VILLAGES - 1);
             fields.intake[field] = readNumber(1, 999);
@@ -974,7 +976,7 @@ public final class IrrigationTurns {
                 fail(TOO_MANY);
                 return;
             }
-            scanner.next();
+            tokens.next();
             rotation.village[entry] = readNumber(0, VILLAGES - 1);
             rotation.hours[entry] = readNumber(1, 99);
             rotation.cycle += rotation.hours[entry];
@@ -984,10 +986,10 @@ public final class IrrigationTurns {
         /** An 11th number that is out of range besides counts as out of range. */
         private void readGuard(Guard guard) {
             int canals = draft.canals.count;
-            scanner.next();
+            tokens.next();
             guard.addStop(readNumber(0, canals - 1));
-            for (int stop = 1; stop <= MAX_ROUTE && error == 0 && scanner.kind == Scanner.NUMBER; stop++) {
-                if (stop == MAX_ROUTE && scanner.value < canals) {
+            for (int stop = 1; stop <= MAX_ROUTE && error == 0 && tokens.kind == Tokens.NUMBER; stop++) {
+                if (stop == MAX_ROUTE && tokens.value < canals) {
                     fail(TOO_MANY);
                 }
                 guard.addStop(readNumber(0, canals - 1));
@@ -997,11 +999,11 @@ public final class IrrigationTurns {
         private void readSum(int depth) {
             readTerm(depth);
             for (int i = 0; i < BUFFER_BYTES && error == 0; i++) {
-                int sign = scanner.kind;
+                int sign = tokens.kind;
                 if (sign != '+' && sign != '-') {
                     return;
                 }
-                scanner.next();
+                tokens.next();
                 readTerm(depth);
                 draft.formula.add(sign == '+' ? Formula.ADD : Formula.SUBTRACT);
             }
@@ -1010,28 +1012,28 @@ public final class IrrigationTurns {
         private void readTerm(int depth) {
             readFactor(depth);
             for (int i = 0; i < BUFFER_BYTES && error == 0; i++) {
-                int sign = scanner.kind;
+                int sign = tokens.kind;
                 if (sign != '*' && sign != '/') {
                     return;
                 }
-                scanner.next();
+                tokens.next();
                 readFactor(depth);
                 draft.formula.add(sign == '*' ? Formula.MULTIPLY : Formula.DIVIDE);
             }
         }
 
         private void readFactor(int depth) {
-            if (scanner.kind == '(' && depth >= MAX_NESTING) {
+            if (tokens.kind == '(' && depth >= MAX_NESTING) {
                 fail(TOO_DEEP);
-            } else if (scanner.kind == '(') {
-                scanner.next();
+            } else if (tokens.kind == '(') {
+                tokens.next();
                 readSum(depth + 1);
                 skipSign(')');
-            } else if (scanner.isWord("hour")) {
+            } else if (tokens.isWord("hour")) {
                 addOperand(Formula.HOUR);
-            } else if (scanner.isWord("day")) {
+            } else if (tokens.isWord("day")) {
                 addOperand(Formula.DAY);
-            } else if (scanner.isWord("turn")) {
+            } else if (tokens.isWord("turn")) {
                 addOperand(Formula.TURN);
             } else {
                 draft.formula.add(readNumber(0, MAX_AMOUNT));
@@ -1040,45 +1042,45 @@ public final class IrrigationTurns {
 
         private void addOperand(int code) {
             draft.formula.add(code);
-            scanner.next();
+            tokens.next();
         }
 
         /** Reads the number behind the word, or answers the other value where the word is missing. */
         private int readOptional(String word, int greatest, int missing) {
-            if (error != 0 || !scanner.isWord(word)) {
+            if (error != 0 || !tokens.isWord(word)) {
                 return missing;
             }
-            scanner.next();
+            tokens.next();
             return readNumber(0, greatest);
         }
 
         /** Answers -1 after an error. */
         private int readNumber(int least, int greatest) {
-            if (scanner.kind != Scanner.NUMBER) {
+            if (tokens.kind != Tokens.NUMBER) {
                 fail(SYNTAX_ERROR);
-            } else if (scanner.value < least || scanner.value > greatest) {
+            } else if (tokens.value < least || tokens.value > greatest) {
                 fail(OUT_OF_RANGE);
             }
             if (error != 0) {
                 return -1;
             }
-            int number = scanner.value;
-            scanner.next();
+            int number = tokens.value;
+            tokens.next();
             return number;
         }
 
         private void skipSign(char sign) {
-            if (scanner.kind != sign) {
+            if (tokens.kind != sign) {
                 fail(SYNTAX_ERROR);
             } else {
-                scanner.next();
+                tokens.next();
             }
         }
 
         private void fail(int code) {
             if (error == 0) {
                 error = code;
-                errorStart = scanner.start;
+                errorStart = tokens.start;
             }
         }
     }
