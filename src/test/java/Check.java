@@ -11,6 +11,14 @@ final class Check {
         void make();
     }
 
+    interface NumberCall {
+        void make(int number);
+    }
+
+    static int wrongSoFar() {
+        return wrong;
+    }
+
     static void due(String call, long got, long want) {
         if (got != want) {
             wrong++;
@@ -51,6 +59,46 @@ final class Check {
 
     static void dueState(String call, Call made) {
         dueThrow(call, IllegalStateException.class, made);
+    }
+
+    static void dueAnswer(String call, Call made) {
+        try {
+            made.make();
+        } catch (RuntimeException got) {
+            wrong++;
+            System.out.println(call + " threw " + got + ", due is an answer");
+        }
+    }
+
+    /** The least and the greatest number are allowed; their neighbours outside and the ends of an int are not. */
+    static void dueRange(String call, int least, int greatest, Class<? extends RuntimeException> outside, NumberCall made) {
+        for (int number : new int[] {least, greatest}) {
+            dueAnswer(call + " of " + number, () -> made.make(number));
+        }
+        for (int number : new int[] {least - 1, greatest + 1, Integer.MIN_VALUE, Integer.MAX_VALUE}) {
+            dueThrow(call + " of " + number, outside, () -> made.make(number));
+        }
+    }
+
+    static void dueIndexRange(String call, int count, NumberCall made) {
+        dueRange(call, 0, count - 1, IndexOutOfBoundsException.class, made);
+    }
+
+    static void dueArgumentRange(String call, int least, int greatest, NumberCall made) {
+        dueRange(call, least, greatest, IllegalArgumentException.class, made);
+    }
+
+    static void loads(String text, int statements) {
+        IrrigationTurns turns = new IrrigationTurns();
+        due("load \"" + text + "\"", load(turns, text), statements);
+        due("errorOffset() of \"" + text + "\"", turns.errorOffset(), -1);
+    }
+
+    /** The first error is due at the first byte of the rest; if there is no rest, at the end of the text. */
+    static void refuses(int code, String before, String rest) {
+        IrrigationTurns turns = new IrrigationTurns();
+        due("load \"" + before + rest + "\"", load(turns, before + rest), code);
+        due("errorOffset() of \"" + before + rest + "\"", turns.errorOffset(), before.length());
     }
 
     static IrrigationTurns loaded(String text) {

@@ -26,12 +26,6 @@ public final class LoadTest {
         Check.finish();
     }
 
-    private static void good(String text, int statements) {
-        IrrigationTurns x = new IrrigationTurns();
-        Check.due("load \"" + text + "\"", Check.load(x, text), statements);
-        Check.due("errorOffset() of \"" + text + "\"", x.errorOffset(), -1);
-    }
-
     private static void bad(String text, int code, int offset) {
         IrrigationTurns x = new IrrigationTurns();
         Check.due("load \"" + text + "\"", Check.load(x, text), code);
@@ -40,20 +34,20 @@ public final class LoadTest {
     }
 
     private static void goodTexts() {
-        good("", 0);
-        good("      ", 0);
-        good(CANAL, 1);
-        good("  canal  1  0  9  ;  ", 1);
-        good("canal1 0 9;", 1);
-        good("canal 1 0 9share0;", 1);
-        good("canal 6 50 9999 share 99;", 1);
-        good("canal 0001 00 000000000000009999;", 1);
-        good(CANAL + "canal from0 1 0 9 share 7;canal from 1 6 50 9999;", 3);
-        good(CANAL + "field 0 5 999 9999 9999 99;field 0 0 1 0 1 0 over 0;", 3);
-        good("turn 5 99;turn 0 1;inflow 0;", 3);
-        good(CANAL + "guard 0;", 2);
-        good(CANAL + "guard 0 0 0 0 0 0 0 0 0 0;", 2);
-        good("inflow ((((hour)))+day*(turn)-9999/1);", 1);
+        Check.loads("", 0);
+        Check.loads("      ", 0);
+        Check.loads(CANAL, 1);
+        Check.loads("  canal  1  0  9  ;  ", 1);
+        Check.loads("canal1 0 9;", 1);
+        Check.loads("canal 1 0 9share0;", 1);
+        Check.loads("canal 6 50 9999 share 99;", 1);
+        Check.loads("canal 0001 00 000000000000009999;", 1);
+        Check.loads(CANAL + "canal from0 1 0 9 share 7;canal from 1 6 50 9999;", 3);
+        Check.loads(CANAL + "field 0 5 999 9999 9999 99;field 0 0 1 0 1 0 over 0;", 3);
+        Check.loads("turn 5 99;turn 0 1;inflow 0;", 3);
+        Check.loads(CANAL + "guard 0;", 2);
+        Check.loads(CANAL + "guard 0 0 0 0 0 0 0 0 0 0;", 2);
+        Check.loads("inflow ((((hour)))+day*(turn)-9999/1);", 1);
         IrrigationTurns x = Check.loaded(CANAL + CHILD + "canal from 1 2 3 4;canal from 0 1 1 1;" + FIELD + FIELD
                 + "turn 4 7;turn 2 5;guard 2 0;");
         Check.due("canalCount()", x.canalCount(), 4);
@@ -233,14 +227,14 @@ public final class LoadTest {
     }
 
     private static void tooMany() {
-        good(CANAL + CHILD.repeat(15), 16);
+        Check.loads(CANAL + CHILD.repeat(15), 16);
         bad(CANAL + CHILD.repeat(15) + CHILD, MANY, 297);
         bad(CANAL + CHILD.repeat(15) + "  canal", MANY, 299);
         bad(CANAL + CHILD.repeat(15) + "canals", SYNTAX, 297);
-        good(CANAL + FIELD.repeat(12), 13);
+        Check.loads(CANAL + FIELD.repeat(12), 13);
         bad(CANAL + FIELD.repeat(12) + FIELD, MANY, 228);
         bad(CANAL + FIELD.repeat(12) + "field ?", MANY, 228);
-        good("turn 0 1;".repeat(12), 12);
+        Check.loads("turn 0 1;".repeat(12), 12);
         bad("turn 0 1;".repeat(12) + "turn", MANY, 108);
         bad(CANAL + "guard 0 0 0 0 0 0 0 0 0 0 0;", MANY, 38);
         bad(CANAL + "guard 0 0 0 0 0 0 0 0 0 0 0", MANY, 38);
@@ -273,6 +267,6 @@ public final class LoadTest {
         bad("inflow ((((1)(;", SYNTAX, 13);
         bad("inflow ((((1+2*(3)))));", DEEP, 15);
         bad("inflow ((((1(", SYNTAX, 12);
-        good("inflow ((((1))))*((((2))))+((((3))));", 1);
+        Check.loads("inflow ((((1))))*((((2))))+((((3))));", 1);
     }
 }
